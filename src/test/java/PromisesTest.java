@@ -80,6 +80,8 @@ public final class PromisesTest {
         new PromisesTest("10").tickFreesBehindAWholeTrain();
         new PromisesTest("10").tickBehindABrokenTrain();
         new PromisesTest("10").tickWithFreeSectionsLeftByABrokenTrain();
+        new PromisesTest("10").tickWithAFreeSectionOfTheReportBefore(true, "000100323000");
+        new PromisesTest("10").tickWithAFreeSectionOfTheReportBefore(false, "000103323000");
         new PromisesTest("10").tickFreesWhereNothingIsDetected();
         new PromisesTest("10").tickWithDetectionThatNoTrainExplains();
         new PromisesTest("10").tickAtAgeFiveAndSix();
@@ -151,6 +153,13 @@ public final class PromisesTest {
         dueThrown("enter the ninth", STATE, () -> x.enter(100, 1));
         dueThrown("enter the ninth at a wrong place", ARGUMENT, () -> x.enter(120, 1));
         dueThrown("enter the ninth with a wrong length", ARGUMENT, () -> x.enter(100, 0));
+        dueThrown("vehicle(8, 0)", NO_SUCH, () -> x.vehicle(8, 0));
+        dueThrown("drive(8, 1)", NO_SUCH, () -> x.drive(8, 1));
+        dueThrown("clear(8)", NO_SUCH, () -> x.clear(8));
+        due("END of the eighth", x.authorise(7), 119);
+        due("drive of the eighth", x.drive(7, 9), 0);
+        due("tick with eight", x.tick(1), 4);
+        dueVehicle(7, 79, 1);
     }
 
     /** Train 0 on 20 .. 25, CLAIMS section 2; its wagon 1 on 16 .. 19, in section 1 that no train CLAIMS. */
@@ -625,6 +634,25 @@ public final class PromisesTest {
         dueStates("FREE and not left stays so", "032000000000");
     }
 
+    /** Train 0 leaves section 5 silently, so that it is FREE; train 1 comes behind when train 0 tells of it. */
+    private void tickWithAFreeSectionOfTheReportBefore(boolean whole, String want) {
+        x.enter(59, 3);
+        x.enter(25, 1);
+        x.authorise(0);
+        x.authorise(1);
+        x.drive(0, 9);
+        x.silence(0, true);
+        x.tick(1);
+        dueStates("silently left", "001000333000");
+        if (!whole) {
+            x.lose(0, 1);
+        }
+        x.silence(0, false);
+        x.drive(1, 9);
+        x.tick(1);
+        dueStates("whole " + whole, want);
+    }
+
     private void tickFreesWhereNothingIsDetected() {
         x.enter(29, 1);
         x.authorise(0);
@@ -803,6 +831,12 @@ public final class PromisesTest {
         due("no train CLAIMS it", x.count(6), 1);
         x.clear(2);
         due("no vehicle stands on it", x.count(6), 0);
+        x = new HybridTrack();
+        x.enter(20, 1);
+        due("on the place in front of a FREE one", x.count(6), 0);
+        x = new HybridTrack();
+        x.enter(19, 1);
+        due("on the place behind a FREE one", x.count(6), 0);
     }
 
     private void countWrong() {
