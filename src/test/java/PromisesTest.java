@@ -1,9 +1,8 @@
 import java.util.NoSuchElementException;
 import java.util.function.IntSupplier;
 
-/** For each promise of the document: ordinary inputs, the edges that it names, and wrong inputs. */
+/** For each promise of the document: what the calls do in ordinary runs. The bounds are tried by the tests of sentences. */
 public final class PromisesTest {
-    private static final Class<IllegalArgumentException> ARGUMENT = IllegalArgumentException.class;
     private static final Class<IllegalStateException> STATE = IllegalStateException.class;
     private static final Class<NoSuchElementException> NO_SUCH = NoSuchElementException.class;
 
@@ -23,7 +22,7 @@ public final class PromisesTest {
     }
 
     private void dueThrown(String call, Class<? extends RuntimeException> want, IntSupplier made) {
-        Due.thrown(promise + ": " + call, x, want, made);
+        Due.thrown(promise + ": " + call, want, made);
     }
 
     private void dueVehicle(int number, int front, int length) {
@@ -49,30 +48,20 @@ public final class PromisesTest {
         new PromisesTest("1").objectsAreApart();
         new PromisesTest("2").enterMakesATrain();
         new PromisesTest("2").enterEdges();
-        new PromisesTest("2").enterWrongPlaces();
-        new PromisesTest("2").enterEighthAndNinth();
         new PromisesTest("2").enterWhereAVehicleStands();
         new PromisesTest("2").enterWhereATrainClaims();
         new PromisesTest("2").enterIsNoTick();
         new PromisesTest("2").enterFindsAllStates();
         new PromisesTest("3").drive();
-        new PromisesTest("3").driveWrong();
         new PromisesTest("4").silence();
-        new PromisesTest("4").silenceWrong();
         new PromisesTest("5").authoriseUpToClaims();
         new PromisesTest("5").authoriseUpToNotFree();
         new PromisesTest("5").authoriseFromWhereItsFrontIs();
         new PromisesTest("5").authoriseStays();
-        new PromisesTest("5").authoriseWrong();
         new PromisesTest("6").relent();
-        new PromisesTest("6").relentWrong();
         new PromisesTest("7").lose();
-        new PromisesTest("7").loseWrong();
-        new PromisesTest("7").loseEighthAndNinth();
         new PromisesTest("8").confirm();
-        new PromisesTest("8").confirmWrong();
         new PromisesTest("9").clear();
-        new PromisesTest("9").clearWrong();
         new PromisesTest("10").tickGoesForward();
         new PromisesTest("10").tickStopsAtEnd();
         new PromisesTest("10").tickStopsBeforeAnother();
@@ -87,14 +76,11 @@ public final class PromisesTest {
         new PromisesTest("10").tickAtAgeFiveAndSix();
         new PromisesTest("10").tickWithAMuteTrainThatStands();
         new PromisesTest("10").tickAmbiguousStaysSo();
-        new PromisesTest("10").tickRange();
         new PromisesTest("11").state();
         new PromisesTest("12").detected();
         new PromisesTest("13").vehicle();
-        new PromisesTest("13").vehicleWrong();
         new PromisesTest("14").countEach();
         new PromisesTest("14").countWronglyFree();
-        new PromisesTest("14").countWrong();
         Due.end();
     }
 
@@ -135,31 +121,6 @@ public final class PromisesTest {
         due("enter(0, 1)", x.enter(0, 1), 0);
         due("enter(119, 1)", x.enter(119, 1), 1);
         dueStates("at the ends", "100000000001");
-    }
-
-    private void enterWrongPlaces() {
-        int[][] wrong = {{40, 0}, {40, 41}, {40, -1}, {120, 1}, {-1, 1}, {38, 40}, {5, 7}, {0, 2},
-            {Integer.MAX_VALUE, 40}, {Integer.MIN_VALUE, 1}, {Integer.MIN_VALUE, Integer.MAX_VALUE},
-            {119, Integer.MIN_VALUE}, {Integer.MAX_VALUE, Integer.MIN_VALUE}, {50, Integer.MAX_VALUE}};
-        for (int[] at : wrong) {
-            dueThrown("enter(" + at[0] + ", " + at[1] + ")", ARGUMENT, () -> x.enter(at[0], at[1]));
-        }
-    }
-
-    private void enterEighthAndNinth() {
-        for (int i = 0; i < 8; i++) {
-            due("enter the next", x.enter(10 * i, 1), i);
-        }
-        dueThrown("enter the ninth", STATE, () -> x.enter(100, 1));
-        dueThrown("enter the ninth at a wrong place", ARGUMENT, () -> x.enter(120, 1));
-        dueThrown("enter the ninth with a wrong length", ARGUMENT, () -> x.enter(100, 0));
-        dueThrown("vehicle(8, 0)", NO_SUCH, () -> x.vehicle(8, 0));
-        dueThrown("drive(8, 1)", NO_SUCH, () -> x.drive(8, 1));
-        dueThrown("clear(8)", NO_SUCH, () -> x.clear(8));
-        due("END of the eighth", x.authorise(7), 119);
-        due("drive of the eighth", x.drive(7, 9), 0);
-        due("tick with eight", x.tick(1), 4);
-        dueVehicle(7, 79, 1);
     }
 
     /** Train 0 on 20 .. 25, CLAIMS section 2; its wagon 1 on 16 .. 19, in section 1 that no train CLAIMS. */
@@ -234,22 +195,6 @@ public final class PromisesTest {
         due("drive(1, 0)", x.drive(1, 0), 3);
     }
 
-    private void driveWrong() {
-        x.enter(5, 3);
-        x.lose(0, 1);
-        x.drive(0, 7);
-        dueThrown("drive(0, 10)", ARGUMENT, () -> x.drive(0, 10));
-        dueThrown("drive(0, -1)", ARGUMENT, () -> x.drive(0, -1));
-        dueThrown("drive(0, least)", ARGUMENT, () -> x.drive(0, Integer.MIN_VALUE));
-        dueThrown("drive of none", NO_SUCH, () -> x.drive(2, 1));
-        dueThrown("drive of none with a wrong speed", NO_SUCH, () -> x.drive(-1, 10));
-        dueThrown("drive of a wagon", NO_SUCH, () -> x.drive(1, 1));
-        dueThrown("drive of a wagon with a wrong speed", NO_SUCH, () -> x.drive(1, 10));
-        dueThrown("drive of 8", NO_SUCH, () -> x.drive(8, 1));
-        dueThrown("drive of the greatest", NO_SUCH, () -> x.drive(Integer.MAX_VALUE, 1));
-        due("the speed is as before", x.drive(0, 0), 7);
-    }
-
     private void silence() {
         x.enter(5, 1);
         due("not silent at first", x.silence(0, false), 0);
@@ -261,16 +206,6 @@ public final class PromisesTest {
         due("AGE before the next report", x.vehicle(0, 3), 1);
         x.tick(1);
         due("AGE after it", x.vehicle(0, 3), 0);
-    }
-
-    private void silenceWrong() {
-        x.enter(5, 3);
-        x.lose(0, 1);
-        dueThrown("silence of none", NO_SUCH, () -> x.silence(2, true));
-        dueThrown("silence of -1", NO_SUCH, () -> x.silence(-1, true));
-        dueThrown("silence of a wagon", NO_SUCH, () -> x.silence(1, true));
-        dueThrown("silence of 8", NO_SUCH, () -> x.silence(8, false));
-        due("the train is not silent", x.silence(0, true), 1);
     }
 
     private void authoriseUpToClaims() {
@@ -330,25 +265,6 @@ public final class PromisesTest {
         due("the front by the report is in it", x.authorise(0), 39);
     }
 
-    private void authoriseWrong() {
-        x.enter(5, 3);
-        x.lose(0, 1);
-        dueThrown("authorise of none", NO_SUCH, () -> x.authorise(2));
-        dueThrown("authorise of -1", NO_SUCH, () -> x.authorise(-1));
-        dueThrown("authorise of a wagon", NO_SUCH, () -> x.authorise(1));
-        x.silence(0, true);
-        dueThrown("authorise of a silent train", STATE, () -> x.authorise(0));
-        x.tick(5);
-        x.silence(0, false);
-        due("authorise at AGE 5", x.authorise(0), 119);
-        x.silence(0, true);
-        x.tick(1);
-        x.silence(0, false);
-        dueThrown("authorise at AGE 6", STATE, () -> x.authorise(0));
-        x.tick(1);
-        due("authorise after a report", x.authorise(0), 119);
-    }
-
     private void relent() {
         x.enter(5, 2);
         due("nothing to give up", x.relent(0), 0);
@@ -372,17 +288,6 @@ public final class PromisesTest {
         due("relent of a MUTE train", x.relent(0), 0);
     }
 
-    private void relentWrong() {
-        x.enter(5, 3);
-        x.lose(0, 1);
-        x.authorise(0);
-        dueThrown("relent of none", NO_SUCH, () -> x.relent(2));
-        dueThrown("relent of -1", NO_SUCH, () -> x.relent(-1));
-        dueThrown("relent of a wagon", NO_SUCH, () -> x.relent(1));
-        x.silence(0, true);
-        dueThrown("relent of a silent train", STATE, () -> x.relent(0));
-    }
-
     private void lose() {
         x.enter(25, 20);
         due("lose(0, 8)", x.lose(0, 8), 1);
@@ -403,34 +308,6 @@ public final class PromisesTest {
         dueVehicle(0, 34, 1);
     }
 
-    private void loseWrong() {
-        x.enter(25, 20);
-        dueThrown("lose(0, 0)", ARGUMENT, () -> x.lose(0, 0));
-        dueThrown("lose(0, -1)", ARGUMENT, () -> x.lose(0, -1));
-        dueThrown("lose(0, 20)", ARGUMENT, () -> x.lose(0, 20));
-        dueThrown("lose(0, greatest)", ARGUMENT, () -> x.lose(0, Integer.MAX_VALUE));
-        dueThrown("lose(0, least)", ARGUMENT, () -> x.lose(0, Integer.MIN_VALUE));
-        dueThrown("lose(1, 0)", NO_SUCH, () -> x.lose(1, 0));
-        dueThrown("lose(-1, 1)", NO_SUCH, () -> x.lose(-1, 1));
-        due("lose(0, 19)", x.lose(0, 19), 1);
-        dueThrown("lose of a wagon", NO_SUCH, () -> x.lose(1, 1));
-        dueThrown("lose of one place", ARGUMENT, () -> x.lose(0, 1));
-    }
-
-    private void loseEighthAndNinth() {
-        x.enter(39, 40);
-        for (int number = 1; number < 8; number++) {
-            due("lose the next", x.lose(0, 1), number);
-        }
-        dueThrown("lose the ninth", STATE, () -> x.lose(0, 1));
-        dueThrown("lose the ninth, too many places", ARGUMENT, () -> x.lose(0, 33));
-        dueThrown("lose the ninth of a wagon", NO_SUCH, () -> x.lose(7, 1));
-        x.clear(7);
-        dueThrown("what was taken off has come, too", STATE, () -> x.lose(0, 1));
-        dueThrown("enter too", STATE, () -> x.enter(119, 1));
-        dueVehicle(6, 5, 1);
-    }
-
     private void confirm() {
         x.enter(25, 10);
         x.lose(0, 4);
@@ -448,22 +325,6 @@ public final class PromisesTest {
         due("confirm while silent", x.confirm(0), 4);
     }
 
-    private void confirmWrong() {
-        x.enter(25, 10);
-        dueThrown("confirm of a whole train", STATE, () -> x.confirm(0));
-        dueThrown("confirm of none", NO_SUCH, () -> x.confirm(1));
-        dueThrown("confirm of -1", NO_SUCH, () -> x.confirm(-1));
-        x.lose(0, 4);
-        dueThrown("confirm of a wagon", NO_SUCH, () -> x.confirm(1));
-        dueThrown("confirm before the loss is reported", STATE, () -> x.confirm(0));
-        x.tick(1);
-        x.confirm(0);
-        dueThrown("confirm twice", STATE, () -> x.confirm(0));
-        x.tick(1);
-        x.lose(0, 1);
-        dueThrown("confirm after a whole report", STATE, () -> x.confirm(0));
-    }
-
     private void clear() {
         x.enter(45, 20);
         x.lose(0, 7);
@@ -477,17 +338,6 @@ public final class PromisesTest {
         due("clear(2)", x.clear(2), 2);
         x.tick(1);
         dueStates("found anew", "000220000000");
-    }
-
-    private void clearWrong() {
-        x.enter(45, 20);
-        dueThrown("clear of a train", NO_SUCH, () -> x.clear(0));
-        dueThrown("clear of none", NO_SUCH, () -> x.clear(1));
-        dueThrown("clear of -1", NO_SUCH, () -> x.clear(-1));
-        dueThrown("clear of 8", NO_SUCH, () -> x.clear(8));
-        x.lose(0, 7);
-        x.clear(1);
-        dueThrown("clear twice", NO_SUCH, () -> x.clear(1));
     }
 
     private void tickGoesForward() {
@@ -718,28 +568,12 @@ public final class PromisesTest {
         dueStates("with the wagon cleared", "032000000000");
     }
 
-    private void tickRange() {
-        dueThrown("tick(0)", ARGUMENT, () -> x.tick(0));
-        dueThrown("tick(7)", ARGUMENT, () -> x.tick(7));
-        dueThrown("tick(-1)", ARGUMENT, () -> x.tick(-1));
-        dueThrown("tick(least)", ARGUMENT, () -> x.tick(Integer.MIN_VALUE));
-        dueThrown("tick(greatest)", ARGUMENT, () -> x.tick(Integer.MAX_VALUE));
-        for (int n = 1; n <= 6; n++) {
-            due("tick(" + n + ")", x.tick(n), 12);
-        }
-        due("ticks", x.count(7), 21);
-    }
-
     private void state() {
         x.enter(0, 1);
         x.enter(119, 1);
         due("state(0)", x.state(0), 1);
         due("state(1)", x.state(1), 0);
         due("state(11)", x.state(11), 1);
-        dueThrown("state(-1)", ARGUMENT, () -> x.state(-1));
-        dueThrown("state(12)", ARGUMENT, () -> x.state(12));
-        dueThrown("state(least)", ARGUMENT, () -> x.state(Integer.MIN_VALUE));
-        dueThrown("state(greatest)", ARGUMENT, () -> x.state(Integer.MAX_VALUE));
         x = new HybridTrack();
         trainBeforeItsWagon();
         due("UNKNOWN", x.state(1), 3);
@@ -762,10 +596,6 @@ public final class PromisesTest {
         due("by a wagon", x.detected(0) * 10 + x.detected(1), 11);
         x.clear(1);
         due("after clear", x.detected(0) * 10 + x.detected(1), 1);
-        dueThrown("detected(-1)", ARGUMENT, () -> x.detected(-1));
-        dueThrown("detected(4)", ARGUMENT, () -> x.detected(4));
-        dueThrown("detected(least)", ARGUMENT, () -> x.detected(Integer.MIN_VALUE));
-        dueThrown("detected(greatest)", ARGUMENT, () -> x.detected(Integer.MAX_VALUE));
     }
 
     private void vehicle() {
@@ -780,26 +610,6 @@ public final class PromisesTest {
         dueVehicle(0, 31, 15);
         dueTrain(0, 119, 2, 25, 0);
         dueVehicle(1, 16, 5);
-    }
-
-    private void vehicleWrong() {
-        x.enter(25, 20);
-        x.lose(0, 5);
-        dueThrown("vehicle(0, 6)", ARGUMENT, () -> x.vehicle(0, 6));
-        dueThrown("vehicle(0, -1)", ARGUMENT, () -> x.vehicle(0, -1));
-        dueThrown("vehicle(1, 6)", ARGUMENT, () -> x.vehicle(1, 6));
-        dueThrown("vehicle(1, -1)", ARGUMENT, () -> x.vehicle(1, -1));
-        for (int what = 2; what < 6; what++) {
-            int asked = what;
-            dueThrown("vehicle(1, " + what + ")", NO_SUCH, () -> x.vehicle(1, asked));
-        }
-        dueThrown("vehicle(2, 0)", NO_SUCH, () -> x.vehicle(2, 0));
-        dueThrown("vehicle(2, 6)", NO_SUCH, () -> x.vehicle(2, 6));
-        dueThrown("vehicle(-1, 6)", NO_SUCH, () -> x.vehicle(-1, 6));
-        dueThrown("vehicle(8, 0)", NO_SUCH, () -> x.vehicle(8, 0));
-        x.clear(1);
-        dueThrown("vehicle(1, 0) taken off", NO_SUCH, () -> x.vehicle(1, 0));
-        dueThrown("vehicle(1, 6) taken off", NO_SUCH, () -> x.vehicle(1, 6));
     }
 
     private void countEach() {
@@ -837,12 +647,5 @@ public final class PromisesTest {
         x = new HybridTrack();
         x.enter(19, 1);
         due("on the place behind a FREE one", x.count(6), 0);
-    }
-
-    private void countWrong() {
-        dueThrown("count(8)", ARGUMENT, () -> x.count(8));
-        dueThrown("count(-1)", ARGUMENT, () -> x.count(-1));
-        dueThrown("count(least)", ARGUMENT, () -> x.count(Integer.MIN_VALUE));
-        dueThrown("count(greatest)", ARGUMENT, () -> x.count(Integer.MAX_VALUE));
     }
 }

@@ -56,7 +56,7 @@ public final class RandomRunsTest {
                 return;
             }
             for (int what = 0; what < 8; what++) {
-                seen[what] += track.count(what) > 0 ? 1 : 0;
+                seen[what] += model.count(what) > 0 ? 1 : 0;
             }
         }
     }
@@ -64,7 +64,7 @@ public final class RandomRunsTest {
     private boolean nextIsPlanned() {
         if (planned >= LOSS_UNSEEN.length && random.nextInt(60) == 0) {
             planned = 0;
-            plannedTrain = random.nextInt(Math.max(1, track.count(0)));
+            plannedTrain = random.nextInt(Math.max(1, model.count(0)));
         }
         return planned < LOSS_UNSEEN.length && random.nextInt(20) != 0;
     }
@@ -83,7 +83,7 @@ public final class RandomRunsTest {
             case 9: return random.nextInt(12);
             case 10: return random.nextInt(4);
             case 12: return random.nextInt(8);
-            default: return random.nextInt(Math.max(1, track.count(0)));
+            default: return random.nextInt(Math.max(1, model.count(0)));
         }
     }
 
